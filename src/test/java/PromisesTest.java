@@ -75,6 +75,11 @@ public final class PromisesTest {
         due("2 LIMIT", x.pad(0, 0, 0, -1), BAD);
         due("2 LIMIT", x.pad(0, 0, 0, 10000), BAD);
         due("2 nothing changed", x.padOf(0, 0), 10);
+        CranePads y = new CranePads();
+        y.pad(0, 1, 1, 0);
+        y.pad(1, 0, 1, 0);
+        y.pad(2, 0, 0, 0);
+        due("2 as small as can be", y.pad(3, 1, 0, 0), 1);
         due("2 a dent", x.pad(3, -5, 5, 9999), 0);
         due("7 X", x.padOf(3, 0), -5);
         due("7 Y", x.padOf(3, 1), 5);
@@ -230,7 +235,27 @@ public final class PromisesTest {
         y.part(10, 0, 40, false);
         fraction("14 nothing holds", y.factor(0, 0), y.factor(0, 1), 0, 1);
         fraction("13 below 0", y.moment(0, 0), y.moment(0, 1), -6000, 1);
-        due("12 below 0", y.mass(0, 1), 10);
+        y.mass(0, 3);
+        y.part(4, -9, -40, false);
+        fraction("12 below 0", y.centre(1, 0), y.centre(1, 1), -40, 7);
+    }
+
+    /** Only the HOOK has MASS, so the CENTRE is REACH times the vector. */
+    private static void directions() {
+        CranePads x = new CranePads();
+        x.put(1, 1);
+        x.put(2, 3);
+        int[][] first = {{1, 0, 1}, {12, 5, 13}, {4, 3, 5}, {3, 4, 5}, {5, 12, 13}};
+        for (int d = 0; d < 20; d++) {
+            x.put(0, d);
+            int[] v = first[d % 5];
+            int[] ahead = {v[0], -v[1], -v[0], v[1]};
+            int[] aside = {v[1], v[0], -v[1], -v[0]};
+            int below = v[2];
+            int q = d / 5;
+            fraction("12 X of " + d, x.centre(0, 0), x.centre(0, 1), ahead[q], ahead[q] == 0 ? 1 : below);
+            fraction("12 Y of " + d, x.centre(1, 0), x.centre(1, 1), aside[q], aside[q] == 0 ? 1 : below);
+        }
     }
 
     private static void pushes() {
@@ -275,6 +300,69 @@ public final class PromisesTest {
         fraction("15 beside it", y.push(3, 0), y.push(3, 1), 500, 19);
     }
 
+    private static void mats() {
+        CranePads x = new CranePads();
+        x.put(1, 0);
+        x.put(4, 1);
+        x.put(3, 9999);
+        x.part(999, 0, 0, false);
+        x.part(999, 0, 0, false);
+        x.part(999, 0, 0, false);
+        x.part(999, 0, 0, false);
+        x.part(405, 0, 0, false);
+        due("17 sixty, just enough", x.mat(0), 60);
+        x.mass(4, 406);
+        due("17 a quarter more", x.mat(0), NOT_SO);
+    }
+
+    /** PADS that are no square: what is copied for a thought or THE IMAGE is all of them. */
+    private static void kite() {
+        CranePads x = firm();
+        x.part(19, 3, -5, true);
+        x.part(19, -7, 4, false);
+        due("40 taken", x.image(), 3);
+        long before = x.push(1, 0);
+        x.pad(0, 20, 25, 9999);
+        x.pad(2, -12, -10, 9999);
+        x.part(5, 4, 4, true);
+        x.mass(1, 1);
+        due("41 back", x.undo(), 3);
+        due("41 the same PUSHES", x.push(1, 0), before);
+        x.pad(0, 20, 20, 9999);
+        x.list(0, 4);
+        x.put(3, 321);
+        due("32 laid", x.lay(0, 0), 4);
+        due("31 thought of the same PADS", x.seen(0, 0, 1) >= 310 && x.seen(0, 0, 1) <= 321 ? 1 : 0, 1);
+        x.put(0, 7);
+        x.pad(0, 10, 12, 9999);
+        int least = x.ballast(1);
+        due("23 least of a TURNING one", least, 1);
+        CranePads y = new CranePads();
+        y.image();
+        y.part(10, 0, 5, false);
+        y.undo();
+        y.part(10, 5, 0, true);
+        y.put(0, 5);
+        fraction("41 a part that comes behind it", y.centre(1, 0), y.centre(1, 1), 5, 1);
+        CranePads z = firm();
+        z.part(1, 40, 0, true);
+        z.put(0, 5);
+        z.put(3, 900);
+        z.put(1, 20);
+        // on the EDGE already: a counterweight would have to be behind
+        due("23 none", z.ballast(1), NOT_SO);
+        z.put(0, 15);
+        due("23 nor there", z.ballast(1), NOT_SO);
+        z.put(1, 19);
+        due("23 the least", z.ballast(1), 1);
+        z.put(1, 20);
+        z.part(2, 0, 40, false);
+        // about the EDGE at Y -10 each unit of this one has 50, and the other takes 30
+        due("23 the other holds", z.ballast(2), 1);
+        z.mass(1, 31);
+        due("23 31 times 30 by 50, cut up", z.ballast(2), 19);
+    }
+
     private static void why() {
         CranePads x = new CranePads();
         due("18 W is 0", x.why(), 2);
@@ -298,6 +386,12 @@ public final class PromisesTest {
         CranePads y = new CranePads();
         y.part(1, 10, 0, false);
         due("18 just above an edge", y.why(), 0);
+        due("16 a PUSH of 0 isn't below 0", y.lifted(), NOT_SO);
+        y.mass(0, 200);
+        y.pad(0, 10, 10, 100);
+        due("18 just the LIMIT", y.why(), 0);
+        y.mass(0, 201);
+        due("18 half above the LIMIT", y.why(), 4);
         y.mass(0, 999);
         y.part(1, 11, 0, false);
         due("18 just beyond an edge", y.why(), 2);
@@ -314,6 +408,8 @@ public final class PromisesTest {
         due("19 until it tips", x.most(), 180);
         x.put(2, 100);
         due("19 the HOOK counts", x.most(), 80);
+        x.put(2, 180);
+        due("19 nothing more", x.most(), 0);
         x.put(2, 181);
         due("19 none", x.most(), NOT_SO);
         CranePads y = new CranePads();
@@ -351,6 +447,12 @@ public final class PromisesTest {
         x.put(3, 0);
         x.put(13, 100);
         due("21 to the end", x.farthest(0), 60);
+        x.entry(0, 0, 10);
+        x.entry(0, 60, -1);
+        x.put(3, 10);
+        due("21 only at 0", x.farthest(0), 0);
+        x.put(3, 11);
+        due("21 not even there", x.farthest(0), NOT_SO);
     }
 
     private static void ways() {
@@ -381,6 +483,26 @@ public final class PromisesTest {
         due("22 bad", x.way(0, -1), BAD);
     }
 
+    private static void longWays() {
+        CranePads x = firm();
+        x.pad(0, 30, 3, 9999);
+        x.pad(1, -30, 3, 9999);
+        x.pad(2, -30, -3, 9999);
+        x.pad(3, 30, -3, 9999);
+        x.put(3, 900);
+        x.put(1, 60);
+        due("22 in to 6, round, and out", x.way(10, 60), 54 + 10 + 54);
+        due("22 no farther aside", x.way(5, 7), NOT_SO);
+        due("22 just so far", x.way(5, 6), 54 + 5);
+        CranePads y = firm();
+        y.put(0, 19);
+        due("22 on round", y.way(0, 5), 1);
+        due("22 on round", y.way(3, 6), 5);
+        y.put(3, 1);
+        y.put(12, 0);
+        due("22 on past 19", y.way(9, 5), 10);
+    }
+
     private static void ballast() {
         CranePads x = firm();
         x.part(5, -10, 0, true);
@@ -392,6 +514,11 @@ public final class PromisesTest {
         due("23 of the other", x.ballast(0), NOT_SO);
         due("23 in thought", x.mass(1, 5), 5);
         due("23 in thought", x.weight(), 1805);
+        // 798 times 10 and 20 a unit of ballast hold, 699 times 40 tip
+        x.put(1, 50);
+        x.put(3, 699);
+        x.mass(0, 798);
+        due("23 all of it", x.ballast(1), 999);
         x.put(1, 60);
         due("23 no mass will do", x.ballast(1), NOT_SO);
         due("23 none", x.ballast(2), NONE);
@@ -424,8 +551,11 @@ public final class PromisesTest {
         String[] texts = {"", ";", "set;", "set;;set", "sets", "se", "set ", "set 5", " set", "Set", "take", "take5",
             "take ", "take  5", "take x", "take ;", "take 5 ", "take 5x", "take 10000", "slew 20", "slew 20000",
             "slew 0012", "reach 61x", "reach 61", "reach 00600", "wind 10", "wind 0009;wind 00009", "wind -1", "set;take",
-            "set;tak 5", "slew 5;reach 5,set", "take 5;"};
-        int[] faults = {0, 0, 4, 4, 0, 0, 3, 3, 0, 0, 4, 4, 5, 5, 5, 5, 6, 6, 9, 5, 5, -1, 6, 6, 10, 5, 19, 5, 8, 4, 14, 7};
+            "set;tak 5", "slew 5;reach 5,set", "take 5;",
+            "setz", "seta", "set{", "set`", "wake 5", "fet", "takes 5", "reach", "reac 5", "winds 5", "slew 5;blew 5",
+            "take /", "take :", "take 9:"};
+        int[] faults = {0, 0, 4, 4, 0, 0, 3, 3, 0, 0, 4, 4, 5, 5, 5, 5, 6, 6, 9, 5, 5, -1, 6, 6, 10, 5, 19, 5, 8, 4, 14, 7,
+            0, 0, 3, 3, 0, 0, 0, 5, 0, 0, 7, 5, 5, 6};
         for (int i = 0; i < texts.length; i++) {
             x.clear();
             due("26 before '" + texts[i] + "'", plan(x, "set;set;set"), 3);
@@ -452,6 +582,9 @@ public final class PromisesTest {
         due("27 no what is named first", x.checked(4), NONE);
         due("27 no what", x.checked(-1), NONE);
         due("28 no plan", x.spare(), NO);
+        CranePads y = firm();
+        plan(y, "take 1000");
+        due("28 asked first", y.spare(), 8999);
         due("29 no plan", x.done(), STATE);
         due("30 no plan", x.backward(), STATE);
         x.entry(0, 60, 0);
@@ -517,6 +650,22 @@ public final class PromisesTest {
         due("30 in thought", x.told(0) * 100 + x.told(1), 5);
         plan(x, "slew 5;reach 21;slew 6");
         due("30 not lawful", x.backward(), 0);
+        plan(x, "slew 2;reach 25");
+        due("30 reach first, then slew", x.backward(), 1);
+        due("26 a fault", plan(x, "reach 3;reach 4;reach 5;take 3;oops"), -131);
+        due("30 the plan that stayed", x.backward(), 1);
+        due("30 and again", x.backward(), 1);
+        x.put(1, 25);
+        x.put(0, 3);
+        plan(x, "reach 4;slew 5;reach 20");
+        due("30 back over the axis at 4", x.backward(), 1);
+        plan(x, "reach 4;slew 7;reach 25");
+        due("30 in, round and out", x.backward(), 1);
+        plan(x, "slew 7;reach 4");
+        due("30 out at 7, then round", x.backward(), 0);
+        plan(x, "reach 20;reach 25");
+        due("27 out and in", x.checked(0), 11);
+        due("27 in order", x.checked(3), 0);
     }
 
     private static void seen() {
@@ -537,8 +686,16 @@ public final class PromisesTest {
         x.list(1, 4);
         due("31 0 is no PUSHES, 1 to 3 are", x.seen(1, 0, 0), 3);
         due("31 1", x.seen(1, 0, 1), 1);
+        x.part(100, 0, 0, false);
+        due("31 from LOAD 0 on", x.seen(0, 2, 0), 4);
+        due("31 from LOAD 0 on", x.seen(0, 2, 1), 0);
         for (int k = 0; k < 4; k++) {
-            x.set(0, 2 + k, 250);
+            x.set(0, 2 + k, 274);
+        }
+        due("31 up to LOAD 999", x.seen(0, 2, 0), 4);
+        due("31 the least of them", x.seen(0, 2, 1), 996);
+        for (int k = 0; k < 4; k++) {
+            x.set(0, 2 + k, 275);
         }
         due("31 no LOAD above 999", x.seen(0, 2, 0), 0);
         due("31 list", x.seen(4, 0, 0), NONE);
@@ -580,6 +737,11 @@ public final class PromisesTest {
         due("32 nothing", x.lay(1, 0), NOTHING);
         x.list(1, 0);
         due("32 a row of 0", x.lay(1, 0), BEYOND);
+        x.list(2, 30);
+        due("32 the last four", x.lay(2, 26), 4);
+        due("32 three", x.lay(2, 27), BEYOND);
+        due("32 none", x.lay(2, 30), BEYOND);
+        due("32 the last", x.get(2, 29), 10);
     }
 
     private static void book() {
@@ -623,6 +785,20 @@ public final class PromisesTest {
         y.book();
         y.book();
         due("35 all are 0", y.heaviest(), 0);
+        CranePads z = firm();
+        z.put(1, 21);
+        z.put(3, 900);
+        z.book();
+        z.put(1, 20);
+        z.book();
+        z.put(0, 2);
+        z.put(1, 21);
+        z.book();
+        z.put(0, 0);
+        z.put(3, 0);
+        due("34 its LOAD counts", z.booked(0, 3), 0);
+        due("34 its REACH counts", z.booked(1, 3), 1);
+        due("34 its DIRECTION counts", z.booked(2, 3), 1);
     }
 
     private static void rows() {
@@ -717,11 +893,15 @@ public final class PromisesTest {
         charts();
         allowed();
         centreAndMoments();
+        directions();
         pushes();
+        mats();
+        kite();
         why();
         most();
         whereAndFarthest();
         ways();
+        longWays();
         ballast();
         tape();
         plans();
