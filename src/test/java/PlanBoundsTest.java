@@ -94,6 +94,16 @@ public final class PlanBoundsTest {
         fault("an empty word, a figure", "5", 0);
         fault("a word that is no STEP", "lift 5", 0);
         fault("a word that is no STEP, later", "set;wind 3;lift 5", 11);
+        fault("another first letter", "wake 5", 0);
+        fault("another first letter", "flew 5", 0);
+        fault("another first letter", "peach 5", 0);
+        fault("another first letter", "get", 0);
+        fault("another first letter", "bind 5", 0);
+        fault("another last letter", "tako 5", 0);
+        fault("another last letter", "sled 5", 0);
+        fault("another last letter", "react 5", 0);
+        fault("another last letter", "sea", 0);
+        fault("another last letter", "wine 5", 0);
         fault("a part of a word", "tak 5", 0);
         fault("a part of a word, at the end", "tak", 0);
         fault("a part of a word, later", "set;se", 4);
@@ -401,6 +411,39 @@ public final class PlanBoundsTest {
         Due.plan(x, "reach 24;slew 2");
         due.is("promise 30: a STEP without MOMENTS", x.backward(), 1);
         due.is("promise 30: in thought", x.told(0) * 100 + x.told(1), 225);
+        x.put(0, 3);
+        Due.plan(x, "reach 4;slew 7");
+        due.is("promise 30: round first, out then", x.backward(), 1);
+        Due.plan(x, "slew 7;reach 4");
+        due.is("promise 30: out first, round then", x.backward(), 0);
+    }
+
+    private static void backwardOfThePlanThatIs() {
+        CranePads x = Due.firm();
+        Due.plan(x, "slew 1;set;take 1");
+        due.is("promise 30: a longer one ahead", Due.plan(x, "slew 1"), 1);
+        due.is("promise 30: what the one ahead held doesn't count", x.backward(), 1);
+        Due.plan(x, "reach 3;slew 4;take");
+        due.is("promise 30: what a FAULT held doesn't count", x.backward(), 1);
+        x.put(3, 1);
+        x.put(10, 0);
+        due.is("promise 30: it may not", x.backward(), 0);
+        Due.plan(x, "reach 3;");
+        due.is("promise 30: it may not still", x.backward(), 0);
+        due.is("promise 27: the PLAN is as it was", x.checked(0), 2);
+        x.put(10, 100);
+        x.put(11, 0);
+        Due.plan(x, "slew 5");
+        due.is("promise 30: as it ends it may not", x.backward(), 0);
+        Due.plan(x, "lift");
+        due.is("promise 30: as it ends it may not, a FAULT without STEPS behind it", x.backward(), 0);
+        x.put(11, 100);
+        x.put(10, 0);
+        due.is("promise 26: 14 moves", Due.plan(x, Due.times(13, "slew 1;") + "slew 2"), 14);
+        x.put(3, 0);
+        due.is("promise 30: 14 moves", x.backward(), 1);
+        x.put(3, 1);
+        due.is("promise 30: 14 moves, none of them lawful", x.backward(), 0);
     }
 
     /** A slew back over ten goes on, as each slew does: over the other half. */
@@ -440,6 +483,7 @@ public final class PlanBoundsTest {
         doneRoundAndToTheEnds();
         backwardRefuses();
         backwardTheLastStepAhead();
+        backwardOfThePlanThatIs();
         backwardOfLikeOnesOn();
         due.end();
     }

@@ -63,6 +63,17 @@ public final class RowsBoundsTest {
         }
     }
 
+    private static void seenFromEachPlace() {
+        CranePads x = middle(100);
+        x.list(2, 7);
+        for (int i = 0; i < 4; i++) {
+            fill(x, 2, i, 30 + i);
+            due.is("promise 31: from " + i + " on in a row of 7", x.seen(2, i, 1), 20 + 4 * i);
+        }
+        due.is("promise 31: from 4 on in a row of 7", x.seen(2, 4, 1), Due.BEYOND);
+        due.is("promise 31: four that aren't alike", x.seen(2, 0, 1), Due.NOT_SO);
+    }
+
     private static void seenWithoutPushes() {
         CranePads x = new CranePads();
         x.put(1, 0);
@@ -269,6 +280,25 @@ public final class RowsBoundsTest {
         x.pad(0, 0, 0, 0);
         due.is("promise 34: it doesn't STAND now", x.booked(2, 3), 0);
         due.is("promise 34: in thought", x.told(3) * 10000 + x.told(0) * 100 + x.told(1), 960);
+    }
+
+    /** At DIRECTION 0 a LOAD of 900 MAY up to REACH 20, at DIRECTION 2 up to 25. */
+    private static void eachOfABookedLiftCounts() {
+        CranePads x = Due.firm();
+        keep(x, 900, 0, 20, 1);
+        keep(x, 900, 0, 21, 2);
+        keep(x, 900, 2, 21, 3);
+        keep(x, 899, 0, 21, 4);
+        keep(x, 818, 0, 21, 5);
+        int[] may = {1, 0, 1, 0, 1};
+        for (int turn = 0; turn < 2; turn++) {
+            for (int i = 0; i < 5; i++) {
+                due.is("promise 34: its own LOAD, DIRECTION and REACH, " + i, x.booked(i, 3), may[i]);
+            }
+            x.put(0, 5);
+            x.put(1, 60);
+            x.put(3, 9999);
+        }
     }
 
     private static void theHeaviest() {
@@ -493,6 +523,43 @@ public final class RowsBoundsTest {
         due.is("promise 41: the later PLAN stays", x.count(2), 2);
     }
 
+    /** PADS that are no square, a PART that turns: undo brings back what they bear, not only what was told. */
+    private static void whatFollowsFromTheImage() {
+        CranePads x = new CranePads();
+        x.pad(0, 20, 10, 9999);
+        x.pad(1, -10, 15, 9999);
+        x.pad(2, -12, -10, 9999);
+        x.pad(3, 13, -14, 9999);
+        x.part(100, 3, -2, true);
+        x.put(0, 7);
+        long[] before = new long[12];
+        borne(x, before, 0);
+        x.image();
+        x.part(50, 5, 5, true);
+        x.part(60, 1, -3, false);
+        for (int k = 0; k < 4; k++) {
+            x.pad(k, 10 * Due.OUT_X[k], 10 * Due.OUT_Y[k], 9999);
+        }
+        borne(x, before, 4);
+        due.is("promise 41: one PART", x.undo(), 1);
+        borne(x, before, 8);
+        for (int k = 0; k < 4; k++) {
+            due.is("promise 15: it was another PUSH of PAD " + k, before[4 + k] == before[k] ? 1 : 0, 0);
+            due.is("promise 41: PUSH of PAD " + k + " is as it was", before[8 + k], before[k]);
+        }
+        due.is("promise 3: the next PART", x.part(9, 40, 0, true), 1);
+        due.is("promise 11: W", x.weight(), 109);
+        // DIRECTION 7 is (-3/5, 4/5)
+        due.fraction("promise 12: X", x.centre(0, 0), x.centre(0, 1), 100 * -1 + 9 * -120, 5 * 109);
+        due.fraction("promise 12: Y", x.centre(1, 0), x.centre(1, 1), 100 * 18 + 9 * 160, 5 * 109);
+    }
+
+    private static void borne(CranePads x, long[] into, int from) {
+        for (int k = 0; k < 4; k++) {
+            into[from + k] = x.push(k, 0);
+        }
+    }
+
     // ---- the 512 calls
 
     /** The dearest calls, 512 of them: the last is answered as the first. */
@@ -517,6 +584,7 @@ public final class RowsBoundsTest {
     public static void main(String[] args) {
         seenFromTheLeastToTheGreatestLoad();
         eachOfTheFourIsLookedAt();
+        seenFromEachPlace();
         seenWithoutPushes();
         seenRefuses();
         layFromEachPlace();
@@ -526,6 +594,7 @@ public final class RowsBoundsTest {
         theEldestGoes();
         bookedRefuses();
         bookedMayBeSoNow();
+        eachOfABookedLiftCounts();
         theHeaviest();
         listTakesLeastAndGreatest();
         listRefuses();
@@ -534,6 +603,7 @@ public final class RowsBoundsTest {
         anImageOfAllAtItsGreatest();
         allOfOneIsInTheImage();
         whatIsNotInTheImage();
+        whatFollowsFromTheImage();
         fiveHundredAndTwelveCalls();
         due.end();
     }

@@ -218,6 +218,19 @@ public final class ThoughtBoundsTest {
         due.is("promise 22: without a LOAD", x.way(0, 10), 5);
     }
 
+    /** PADS that are long and thin: along them to REACH 60, across them to REACH 6. */
+    private static void aLongWay() {
+        CranePads x = Due.firm();
+        for (int k = 0; k < 4; k++) {
+            x.pad(k, 30 * Due.OUT_X[k], 3 * Due.OUT_Y[k], 9999);
+        }
+        x.put(3, 900);
+        x.put(1, 60);
+        due.is("promise 22: in, round and out", x.way(10, 60), 54 + 10 + 54);
+        due.is("promise 22: in and round", x.way(5, 6), 54 + 5);
+        due.is("promise 22: no farther across", x.way(5, 7), Due.NOT_SO);
+    }
+
     private static void wayRefuses() {
         CranePads x = Due.firm();
         CranePads nowhere = new CranePads();
@@ -258,6 +271,39 @@ public final class ThoughtBoundsTest {
         due.is("promise 23: it doesn't STAND", y.ballast(0), Due.NOT_SO);
     }
 
+    /** At DIRECTION 7, (-3/5, 4/5), a PART behind the top, at A -20 and B 10, is at (4, -22). */
+    private static void ballastThatTurns() {
+        CranePads x = new CranePads();
+        x.entry(0, 60, 9999);
+        x.part(1, 0, 0, false);
+        x.part(500, -20, 10, true);
+        x.put(0, 7);
+        x.put(1, 20);
+        x.put(3, 100);
+        // the LOAD is at (-12, 16): 100 times 6 beyond EDGE 0, each of ballast 32 ahead of it, 10 the PART's own
+        due.is("promise 23: TURNING, (600 - 10) by 32", x.ballast(1), 19);
+        due.is("promise 19: what it holds", x.most(), 999);
+        x.mass(1, 19);
+        // 10 and 19 times 32 hold about EDGE 0, a LOAD has 6
+        due.is("promise 19: 618 by 6", x.most(), 103);
+        due.is("promise 20: at other DIRECTIONS too", x.where(20) >> 7 & 1, 1);
+        due.is("promise 21: to 20", x.farthest(7), 20);
+    }
+
+    /** A PART that stays at (3, -25). */
+    private static void ballastThatStays() {
+        CranePads x = new CranePads();
+        x.entry(0, 60, 9999);
+        x.part(500, 3, -25, false);
+        x.put(0, 5);
+        x.put(1, 20);
+        x.put(3, 100);
+        // 100 times 10 beyond EDGE 0, each of ballast 35 ahead of it
+        due.is("promise 23: not TURNING, 1000 by 35", x.ballast(0), 29);
+        x.put(0, 0);
+        due.is("promise 23: at DIRECTION 0 none", x.ballast(0), Due.NOT_SO);
+    }
+
     private static void ballastOfTheFirstAndTheLastPart() {
         CranePads x = new CranePads();
         due.is("promise 23: no PARTS", x.ballast(0), Due.NONE);
@@ -290,8 +336,11 @@ public final class ThoughtBoundsTest {
         reachDoesNotGoRound();
         theFirstAndTheLastMayToo();
         noWayOverAGap();
+        aLongWay();
         wayRefuses();
         theLeastBallast();
+        ballastThatTurns();
+        ballastThatStays();
         ballastOfTheFirstAndTheLastPart();
         ballastRefuses();
         due.end();

@@ -214,6 +214,46 @@ public final class WeighedBoundsTest {
         due.fraction("promise 14: LOAD 1 just beyond the EDGE", x.factor(0, 0), x.factor(0, 1), 100, 1);
     }
 
+    /** A PART of 50 holds in the middle; one of 1 that is TURNING holds or tips, as DIRECTION is, about each EDGE. */
+    private static void factorAtEachDirection() {
+        CranePads x = withPart(50, 0, 0);
+        x.part(1, 30, -20, true);
+        for (int d = 0; d < 20; d++) {
+            x.put(0, d);
+            long c = along(d);
+            long s = along(d + 15);
+            long placeX = 30 * c + 20 * s;
+            long placeY = 30 * s - 20 * c;
+            for (int edge = 0; edge < 4; edge++) {
+                long ahead = 650 - placeX * OVER_X[edge] - placeY * OVER_Y[edge];
+                String what = "promise 14: DIRECTION " + d + ", EDGE " + edge;
+                if (ahead >= 0) {
+                    due.is(what + ", TIPPING is 0", x.factor(edge, 0), Due.NO);
+                } else {
+                    due.fraction(what, x.factor(edge, 0), x.factor(edge, 1), 50 * 650, -ahead);
+                }
+            }
+        }
+    }
+
+    private static void factorOfTheHookAtEachDirection() {
+        CranePads x = withPart(50, 0, 0);
+        x.put(1, 40);
+        x.put(2, 1);
+        for (int d = 0; d < 20; d++) {
+            x.put(0, d);
+            for (int edge = 0; edge < 4; edge++) {
+                long ahead = 650 - 40L * along(d) * OVER_X[edge] - 40L * along(d + 15) * OVER_Y[edge];
+                String what = "promise 14: HOOK at DIRECTION " + d + ", EDGE " + edge;
+                if (ahead >= 0) {
+                    due.is(what + ", TIPPING is 0", x.factor(edge, 0), Due.NO);
+                } else {
+                    due.fraction(what, x.factor(edge, 0), x.factor(edge, 1), 50 * 650, -ahead);
+                }
+            }
+        }
+    }
+
     private static void factorRefuses() {
         CranePads x = withPart(3, 0, 20);
         for (int i = 0; i < 4; i++) {
@@ -251,6 +291,61 @@ public final class WeighedBoundsTest {
             pushIs("the next, of three", z, k + 1, k % 2 == 0 ? 25 : 20, 1);
             pushIs("the one behind, of three", z, k + 3, k % 2 == 0 ? 20 : 25, 1);
         }
+    }
+
+    /** PADS that are no square, each of them the one that lies farther out; the two laws and the one plane. */
+    private static void theLawsOnPadsThatAreNoSquare() {
+        int[][] places = {{0, 0}, {3, 1}, {-2, 4}, {-3, -3}, {4, -2}};
+        for (int k = 0; k < 4; k++) {
+            for (int[] place : places) {
+                CranePads x = withPart(120, place[0], place[1]);
+                x.pad(k, 13 * Due.OUT_X[k], 17 * Due.OUT_Y[k], 9999);
+                int across = (k + 2) % 4;
+                x.pad(across, 9 * Due.OUT_X[across], 8 * Due.OUT_Y[across], 9999);
+                due.is("promise 16: none is LIFTED", x.lifted(), Due.NOT_SO);
+                theLaws(x, place[0], place[1]);
+            }
+        }
+    }
+
+    private static void theLaws(CranePads x, int centreX, int centreY) {
+        // brought to one line: the greatest one below it, which all the others divide
+        long below = 1;
+        for (int pad = 0; pad < 4; pad++) {
+            below = below / commonDivisor(below, x.push(pad, 1)) * x.push(pad, 1);
+        }
+        long[] push = new long[4];
+        long all = 0;
+        long allX = 0;
+        long allY = 0;
+        for (int pad = 0; pad < 4; pad++) {
+            push[pad] = x.push(pad, 0) * (below / x.push(pad, 1));
+            all += push[pad];
+            allX += push[pad] * x.padOf(pad, 0);
+            allY += push[pad] * x.padOf(pad, 1);
+        }
+        due.is("promise 15: all are W", all, 120 * below);
+        due.is("promise 15: X times PUSH", allX, 120 * below * centreX);
+        due.is("promise 15: Y times PUSH", allY, 120 * below * centreY);
+        due.is("promise 15: they lie in one plane", outOfPlane(x, push), 0);
+    }
+
+    /** What PAD 3 lies above or below the plane of the other three. */
+    private static long outOfPlane(CranePads x, long[] push) {
+        long[] dx = new long[4];
+        long[] dy = new long[4];
+        long[] dz = new long[4];
+        for (int pad = 1; pad < 4; pad++) {
+            dx[pad] = x.padOf(pad, 0) - x.padOf(0, 0);
+            dy[pad] = x.padOf(pad, 1) - x.padOf(0, 1);
+            dz[pad] = push[pad] - push[0];
+        }
+        return dx[1] * (dy[2] * dz[3] - dz[2] * dy[3]) - dy[1] * (dx[2] * dz[3] - dz[2] * dx[3])
+            + dz[1] * (dx[2] * dy[3] - dy[2] * dx[3]);
+    }
+
+    private static long commonDivisor(long a, long b) {
+        return b == 0 ? a : commonDivisor(b, a % b);
     }
 
     private static void allAboveOnePad() {
@@ -498,8 +593,11 @@ public final class WeighedBoundsTest {
         momentRefuses();
         factorOfEachEdge();
         whatHasNoMassCountsForNothing();
+        factorAtEachDirection();
+        factorOfTheHookAtEachDirection();
         factorRefuses();
         aPadIsLiftedOnlyBelowNought();
+        theLawsOnPadsThatAreNoSquare();
         allAboveOnePad();
         onAnEdgeTwoBearIt();
         noPushes();
