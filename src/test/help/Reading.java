@@ -7,6 +7,7 @@ import java.nio.file.Path;
  */
 final class Reading {
     private static final Path DOCUMENT = Path.of("..", "shared", "DOC.md");
+    /** null: the document isn't here, and only the answers are looked at. */
     private final String text;
     private final Due due = new Due();
     private int at;
@@ -19,6 +20,10 @@ final class Reading {
 
     /** Begins at these words; all blanks and line ends of the document are one blank, and its fences are left out. */
     static Reading from(String words) throws Exception {
+        if (!Files.isReadable(DOCUMENT)) {
+            System.out.println("no " + DOCUMENT + ": its words aren't looked at");
+            return new Reading(null, 0);
+        }
         String text = Files.readString(DOCUMENT).replaceAll("```[a-z]*", " ").replaceAll("\\s+", " ").trim();
         Reading reading = new Reading(text, text.indexOf(words));
         reading.due.is("the document has the words: " + words, reading.at < 0 ? 0 : 1, 1);
@@ -28,6 +33,9 @@ final class Reading {
     /** The document goes on with these words. */
     void says(String words) {
         sentence = words;
+        if (text == null) {
+            return;
+        }
         int found = at < 0 ? -1 : text.indexOf(words, at);
         due.is("the document says: " + words, found, skipBlank());
         if (found >= 0) {
@@ -37,8 +45,10 @@ final class Reading {
 
     /** Nothing was left out up to these words; "" is the document's end. */
     void goesUpTo(String words) {
-        int end = words.isEmpty() ? text.length() : text.indexOf(words);
-        due.is("the document is read up to: " + words, skipBlank(), end);
+        if (text != null) {
+            int end = words.isEmpty() ? text.length() : text.indexOf(words);
+            due.is("the document is read up to: " + words, skipBlank(), end);
+        }
         due.end();
     }
 

@@ -325,6 +325,20 @@ public final class TermsTest {
         return x;
     }
 
+    /** PADS at (10, 10), (-10, 10), (-10, -10), (20, -10): of 100 in the middle b is -5/13, c -5/52, a 675/26. */
+    private static CranePads uneven() {
+        CranePads x = with(100, 0, 0);
+        x.pad(3, 20, -10, 9999);
+        return x;
+    }
+
+    private static void unevenPushes(CranePads x) {
+        int[] above = {275, 375, 400, 250};
+        for (int pad = 0; pad < 4; pad++) {
+            doc.fraction("PUSH of " + pad + " on uneven PADS", x.push(pad, 0), x.push(pad, 1), above[pad], 13);
+        }
+    }
+
     private static void pushes() {
         doc.says("PUSHES, if it STANDS and doesn't TIP and W is above 0: of PAD k a + b X + c Y, so that all are W, and of X"
             + " (and Y) times PUSH all are W times CENTRE's.");
@@ -333,6 +347,7 @@ public final class TermsTest {
         x.pad(2, -20, -10, 9999);
         x.pad(3, 20, -10, 9999);
         pushesAre(x, Due.NOT_SO, 60, 60, 40, 40);
+        unevenPushes(uneven());
         doc.is("W is 0", new CranePads().push(0, 0), Due.NO);
         doc.is("it TIPS", with(100, 11, 0).push(0, 0), Due.NO);
         x.pad(3, -20, -10, 9999);
@@ -471,6 +486,8 @@ public final class TermsTest {
         doc.is("LOAD stays", x.told(3), 100);
         x.put(2, 30);
         doc.is("with the HOOK", x.most(), 70);
+        x.put(2, 100);
+        doc.is("the HOOK and no more", x.most(), 0);
         x.put(2, 101);
         doc.is("none", x.most(), Due.NOT_SO);
         x.put(2, 0);
@@ -491,6 +508,9 @@ public final class TermsTest {
         x.put(13, 0);
         x.put(2, 1);
         doc.is("none", x.farthest(15), Due.NOT_SO);
+        x.entry(0, 0, 1);
+        x.entry(0, 60, 0);
+        doc.is("0", x.farthest(0), 0);
     }
 
     private static void waysAndBallast() {
@@ -745,6 +765,12 @@ public final class TermsTest {
         doc.is("THE TAPE stays", x.count(1), 4);
         doc.is("the BOOK stays", x.booked(0, 0), 2);
         doc.is("LISTS stay", x.get(1, 2), -8);
+        CranePads y = uneven();
+        y.image();
+        y.pad(0, 30, 30, 9999);
+        y.pad(3, 0, 0, 9999);
+        y.undo();
+        unevenPushes(y);
     }
 
     private static void answers() {
