@@ -705,7 +705,10 @@ public final class CranePads {
             System.arraycopy(other.mass, 0, mass, 0, PARTS);
             System.arraycopy(other.a, 0, a, 0, PARTS);
             System.arraycopy(other.b, 0, b, 0, PARTS);
-            System.arraycopy(other.turning, 0, turning, 0, PARTS);
+            // not by arraycopy, which LANGUAGE.md may mean for arrays of numbers alone
+            for (int part = 0; part < PARTS; part++) {
+                turning[part] = other.turning[part];
+            }
             size = other.size;
             total = other.total;
             stayA = other.stayA;
